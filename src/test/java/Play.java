@@ -24,6 +24,18 @@ final class Play {
     return sent;
   }
 
+  /** Files 0 and 1 and action 2 on them, with two PUTs and an ASK in flight at time 1. */
+  static LeasedBuilds uploading(int a, int b) {
+    LeasedBuilds x = new LeasedBuilds(2, 8);
+    x.file(a);
+    x.file(b);
+    x.action(0L, 0, 1);
+    x.tick();
+    x.deliver(0, NO_CUT);
+    x.deliver(0, NO_CUT);
+    return x;
+  }
+
   /** Files 0 and 1 and action 2 on them, whose key is in the queue at time 1. */
   static LeasedBuilds queued(int workers, int lease, long program, int a, int b) {
     LeasedBuilds x = new LeasedBuilds(workers, lease);

@@ -190,13 +190,7 @@ public final class PromisesTest {
   }
 
   private static void lackOfTheSecond() {
-    LeasedBuilds x = new LeasedBuilds(2, 8);
-    x.file(6);
-    x.file(9);
-    x.action(0L, 0, 1);
-    x.tick();
-    x.deliver(0, NO_CUT);
-    x.deliver(0, NO_CUT);
+    LeasedBuilds x = Play.uploading(6, 9);
     x.lose(1);
     x.deliver(0, NO_CUT);
     x.deliver(0, NO_CUT);
@@ -401,13 +395,7 @@ public final class PromisesTest {
   // Promise 6
 
   private static void lose() {
-    LeasedBuilds x = new LeasedBuilds(2, 8);
-    x.file(6);
-    x.file(9);
-    x.action(0L, 0, 1);
-    x.tick();
-    x.deliver(0, NO_CUT);
-    x.deliver(0, NO_CUT);
+    LeasedBuilds x = Play.uploading(6, 9);
     String before = Play.state(x);
     int[] wrong = {-1, 3, 24, LOWEST, HIGHEST};
     for (int k : wrong) {
