@@ -1,14 +1,16 @@
 /** Counts and prints the answers that are not the ones that are due. */
 final class Checks {
+  private String sentence = "";
   private int made = 0;
   private int wrong = 0;
 
+  /** The sentence of the document that the answers from here on are due by. */
+  void by(String newSentence) {
+    sentence = "\"" + newSentence + "\": ";
+  }
+
   void due(String call, long got, long want) {
-    made++;
-    if (got != want) {
-      wrong++;
-      System.out.println(call + " answered " + got + ", due is " + want);
-    }
+    due(call, Long.toString(got), Long.toString(want));
   }
 
   void due(String call, boolean got, boolean want) {
@@ -19,7 +21,7 @@ final class Checks {
     made++;
     if (!got.equals(want)) {
       wrong++;
-      System.out.println(call + " answered " + got + ", due is " + want);
+      System.out.println(sentence + call + " answered " + got + ", due is " + want);
     }
   }
 

@@ -52,25 +52,8 @@ public final class TickTest {
     run(0x8111111111111111L, 1, 2, 31, 16);
   }
 
-  /** One program on two contents: its output, and how many instructions come before END. */
   private static void run(long program, int a, int b, int output, int instructions) {
-    String name = "4: program " + Long.toHexString(program) + " on " + a + " and " + b;
-    LeasedBuilds x = Play.queued(1, 40, program, a, b);
-    x.tick();
-    x.deliver(0, NO_CUT);
-    for (int i = 0; i < instructions; i++) {
-      CHECKS.due(name + ", done", x.doing(1), i);
-      x.tick();
-    }
-    CHECKS.due(name + ", before END", x.doing(1), instructions);
-    x.tick();
-    CHECKS.due(name + ", after END", x.doing(1), NONE);
-    int result = 0;
-    for (int k = 0; k < x.flying(); k++) {
-      result = x.message(k) == 50 ? k : result;
-    }
-    CHECKS.due(name + ", sent", x.message(result), 50);
-    CHECKS.due(name + ", output", x.carried(result), output);
+    Play.run(CHECKS, program, a, b, output, instructions);
   }
 
   private static void workersThenServerThenClient() {
