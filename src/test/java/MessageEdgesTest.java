@@ -21,6 +21,7 @@ public final class MessageEdgesTest {
     neverRefused();
     askWithAResult();
     askWithAResultButNoInputs();
+    askWithTwoResults();
     askThatLacks();
     askInTheQueue();
     askInALease();
@@ -34,9 +35,11 @@ public final class MessageEdgesTest {
     resultOfAStoredOutput();
     resultInTheQueue();
     resultInALease();
+    resultInTheLastLease();
     resultInNeither();
     answerForNone();
     answerForSeveral();
+    answerForReadyOnesOnly();
     answerForOneThatBecomesReady();
     cutBeforeTheUpload();
     cutBeforeTheBlob();
@@ -114,7 +117,7 @@ public final class MessageEdgesTest {
   }
 
   private static void refusedPut() {
-    CHECKS.by("when one of them has not the digest that goes with it, the message is REFUSED");
+    CHECKS.by("when one of them has not the digest that goes with it");
     LeasedBuilds x = Play.uploading(6, 9);
     x.lose(2);
     x.lose(1);
@@ -162,7 +165,7 @@ public final class MessageEdgesTest {
   }
 
   private static void refusedResult() {
-    CHECKS.by("when one of them has not the digest that goes with it, the message is REFUSED");
+    CHECKS.by("when one of them has not the digest that goes with it");
     LeasedBuilds x = Play.finished(2, 8, 6, 9);
     refused(x, 5);
     CHECKS.due("no result", x.count(1), 0);
@@ -182,7 +185,7 @@ public final class MessageEdgesTest {
   }
 
   private static void refusedAnswer() {
-    CHECKS.by("when one of them has not the digest that goes with it, the message is REFUSED");
+    CHECKS.by("when one of them has not the digest that goes with it");
     LeasedBuilds x = Play.finished(2, 8, 6, 9);
     x.deliver(0, NO_CUT);
     refused(x, 6);
@@ -234,6 +237,29 @@ public final class MessageEdgesTest {
     x.deliver(0, NO_CUT);
     CHECKS.due("no LACK but an ANSWER", Play.flight(x), "69");
     CHECKS.due("its content", x.carried(0), 15);
+  }
+
+  private static void askWithTwoResults() {
+    CHECKS.by("ASK: if there is a result for the key, an ANSWER with that digest and its content is sent (a HIT)");
+    LeasedBuilds x = new LeasedBuilds(2, 8);
+    x.file(6);
+    x.file(9);
+    x.action(0L, 0, 1);
+    x.action(0L, 1, 0);
+    for (int i = 0; i < 3; i++) {
+      x.tick();
+      Play.settle(x);
+    }
+    CHECKS.due("two results", x.count(1), 2);
+    x.action(0L, 1, 0);
+    x.action(0L, 0, 1);
+    x.tick();
+    x.deliver(0, NO_CUT);
+    x.deliver(0, NO_CUT);
+    CHECKS.due("two ANSWERs", Play.flight(x), "69 69");
+    CHECKS.due("the second result's content", x.carried(0), 9);
+    CHECKS.due("the first result's content", x.carried(1), 6);
+    CHECKS.due("two hits", x.count(4), 2);
   }
 
   private static void askThatLacks() {
@@ -467,11 +493,23 @@ public final class MessageEdgesTest {
     CHECKS.due("two leases", Play.flight(x), "42");
     x.tick();
     CHECKS.due("the first has gone round", Play.flight(x), "42 50 41");
-    int other = x.lease(2);
     x.deliver(1, NO_CUT);
     CHECKS.due("it ends", x.lease(1), NONE);
-    CHECKS.due("the other's stays", x.lease(2), other);
+    CHECKS.due("the other's stays", x.lease(2), 1);
     CHECKS.due("its key does not wait", x.waiting(), 0);
+  }
+
+  private static void resultInTheLastLease() {
+    CHECKS.by("a lease with that key ends, if there is one");
+    LeasedBuilds x = Play.nineQueued(4, 8);
+    x.tick();
+    x.deliver(3, NO_CUT);
+    Play.ticks(x, 2);
+    x.deliver(Play.find(x, 50), NO_CUT);
+    CHECKS.due("worker 4's ends", x.lease(4), NONE);
+    for (int w = 1; w <= 3; w++) {
+      CHECKS.due("that of worker " + w + " stays", x.lease(w), 6);
+    }
   }
 
   private static void resultInNeither() {
@@ -526,6 +564,30 @@ public final class MessageEdgesTest {
     CHECKS.due("all eight are known", x.count(9), 0);
     CHECKS.due("with the content", x.content(9), 6);
     CHECKS.due("of one lease", x.count(2), 1);
+  }
+
+  /** What is not known may not count as a content of 0, nor a file as an action. */
+  private static void answerForReadyOnesOnly() {
+    CHECKS.by("ANSWER: every ready action with that key becomes known");
+    LeasedBuilds x = new LeasedBuilds(1, 40);
+    x.file(0);
+    x.file(9);
+    x.action(0xBL, 0, 0);
+    x.action(0L, 2, 2);
+    x.action(0L, 0, 2);
+    x.action(0L, 0, 0);
+    x.tick();
+    x.lose(0);
+    Play.settle(x);
+    for (int i = 0; i < 2; i++) {
+      x.tick();
+      Play.settle(x);
+    }
+    CHECKS.due("the action", x.known(5), true);
+    CHECKS.due("another program", x.known(2), false);
+    CHECKS.due("one whose inputs are not known", x.known(3), false);
+    CHECKS.due("one whose b is not known", x.known(4), false);
+    CHECKS.due("a file", x.content(1), 9);
   }
 
   private static void answerForOneThatBecomesReady() {

@@ -6,6 +6,8 @@ public final class ModelTest {
   private static final int MOST_CALLS = 512;
   private static final long[] PROGRAMS = {
       0L, 1L, 0x21L, 0x71L, 0x5858L, 0x9A3L, 0xBBBBL, 0x46L, -1L, 0x8555555555555555L, 0x7B1L};
+  private static final int[] EDGES = {
+      Integer.MIN_VALUE, Integer.MIN_VALUE + 1, -1, 0, 1, Integer.MAX_VALUE - 1, Integer.MAX_VALUE};
   private static final int[] WRONG = {-1, 5, 10, 24, Integer.MIN_VALUE, Integer.MAX_VALUE};
 
   private static final Checks CHECKS = new Checks();
@@ -62,7 +64,7 @@ public final class ModelTest {
       add();
     } else if (choice < 65) {
       int k = random.nextInt(3) == 0 ? message() : 0;
-      int cut = random.nextInt(100) < trouble ? random.nextInt(4) - 1 : -1;
+      int cut = random.nextInt(100) < trouble ? cut() : -1;
       due("deliver(" + k + ", " + cut + ")", farm.deliver(k, cut), model.deliver(k, cut));
     } else {
       due("tick()", farm.tick(), model.tick());
@@ -71,7 +73,7 @@ public final class ModelTest {
 
   private void add() {
     if (random.nextInt(3) == 0) {
-      int content = random.nextInt(4) == 0 ? random.nextInt() : random.nextInt(6) - 1;
+      int content = content();
       due("file(" + content + ")", farm.file(content), model.file(content));
     } else {
       long program = random.nextInt(6) == 0 ? random.nextLong() : PROGRAMS[random.nextInt(PROGRAMS.length)];
@@ -111,6 +113,18 @@ public final class ModelTest {
       case 8 -> due("doing(" + worker + ")", farm.doing(worker), model.doing(worker));
       default -> due("count(" + which + ")", farm.count(which), model.count(which));
     }
+  }
+
+  private int cut() {
+    return random.nextInt(10) == 0 ? EDGES[random.nextInt(EDGES.length)] : random.nextInt(4) - 1;
+  }
+
+  private int content() {
+    return switch (random.nextInt(8)) {
+      case 0 -> random.nextInt();
+      case 1 -> EDGES[random.nextInt(EDGES.length)];
+      default -> random.nextInt(6) - 1;
+    };
   }
 
   private int wrong() {

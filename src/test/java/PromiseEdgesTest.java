@@ -36,6 +36,7 @@ public final class PromiseEdgesTest {
     restartWithAnEmptyMemory();
     collectNothing();
     collectAll();
+    collectTheRest();
     collectWhileDown();
     flyingFromEmptyToFull();
     messageNone();
@@ -565,6 +566,33 @@ public final class PromiseEdgesTest {
     Play.settle(x);
     CHECKS.due("uploaded again", x.count(3), 8);
     CHECKS.due("both keys wait", x.waiting(), 2);
+  }
+
+  private static void collectTheRest() {
+    CHECKS.by("10: nor one of the two digests in a key that is in the queue or in a lease");
+    LeasedBuilds x = new LeasedBuilds(1, 40);
+    for (int i = 0; i < 6; i++) {
+      x.file(i);
+    }
+    for (int i = 0; i < 6; i += 2) {
+      x.action(0L, i, i + 1);
+    }
+    x.tick();
+    Play.settle(x);
+    x.crash(0);
+    x.restart(0);
+    Play.ticks(x, 5);
+    x.lose(1);
+    Play.settle(x);
+    CHECKS.due("six blobs, two keys wait", x.count(0) + 10 * x.waiting(), 26);
+    CHECKS.due("those in no key", x.collect(), 2);
+    CHECKS.due("a of none", x.stored(x.digest(2)), false);
+    CHECKS.due("b of none", x.stored(x.digest(3)), false);
+    x.tick();
+    CHECKS.due("one is leased, one waits", x.waiting(), 1);
+    CHECKS.due("none goes", x.collect(), 0);
+    CHECKS.due("b of the leased key", x.stored(x.digest(1)), true);
+    CHECKS.due("a of the waiting key", x.stored(x.digest(4)), true);
   }
 
   private static void collectWhileDown() {
