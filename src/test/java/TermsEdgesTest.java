@@ -17,6 +17,7 @@ public final class TermsEdgesTest {
 
   public static void main(String[] args) {
     lastCalls();
+    laterCalls();
     longestJob();
     tenItems();
     anyContent();
@@ -70,6 +71,20 @@ public final class TermsEdgesTest {
       CHECKS.due("tick " + i, x.tick(), i % 5 == 1 ? 1 : 0);
     }
     CHECKS.due("call 512", x.flying(), 24);
+  }
+
+  /** LANGUAGE.md asks that no call ever throws, so the free answers have to come. */
+  private static void laterCalls() {
+    CHECKS.by("what later calls answer is free");
+    LeasedBuilds x = Play.nineQueued(4, 1);
+    int calls = 0;
+    for (int i = 0; i < 5000; i++) {
+      x.tick();
+      x.deliver(i % 24, i % 3 - 1);
+      x.restart(i % 5);
+      calls += 3;
+    }
+    CHECKS.due("calls that came to an end", calls, 15000);
   }
 
   private static void longestJob() {
@@ -170,9 +185,9 @@ public final class TermsEdgesTest {
 
   private static void differentDigests() {
     CHECKS.by("so different contents have different digests");
-    LeasedBuilds x = new LeasedBuilds(2, 8);
     Set<Integer> digests = new HashSet<>();
     for (int i = -1000; i < 1000; i++) {
+      LeasedBuilds x = new LeasedBuilds(2, 8);
       digests.add(x.digest(i));
       digests.add(x.digest(LOWEST + 5000 + i));
       digests.add(x.digest(HIGHEST - 5000 + i));
