@@ -45,6 +45,7 @@ public final class TermsEdgesTest {
     clientNeverCrashes();
     noBlobTwice();
     noResultTwice();
+    fullestDisk();
     oneLeaseEach();
     oneJobEach();
     atFirst();
@@ -413,6 +414,24 @@ public final class TermsEdgesTest {
     CHECKS.due("a result", x.count(1), 1);
     x.deliver(0, NO_CUT);
     CHECKS.due("no second one", x.count(1), 1);
+  }
+
+  private static void fullestDisk() {
+    CHECKS.by("THE SERVER (node 0) has a DISK with BLOBS and RESULTS, of at most 10 items");
+    LeasedBuilds x = new LeasedBuilds(4, 40);
+    x.file(1);
+    for (int i = 1; i < 10; i++) {
+      x.action(0x5L, i - 1, i - 1);
+    }
+    for (int i = 0; i < 60 && x.count(9) > 0; i++) {
+      x.tick();
+      Play.settle(x);
+    }
+    CHECKS.due("the last content", x.content(9), 29524);
+    CHECKS.due("a blob for each item", x.count(0), 10);
+    CHECKS.due("a result for each action", x.count(1), 9);
+    CHECKS.due("one blob is no output", x.collect(), 1);
+    CHECKS.due("the last output", x.stored(x.digest(29524)), true);
   }
 
   private static void oneLeaseEach() {
